@@ -292,6 +292,8 @@ public final class CaneSlices {
         if (!isBead(bead)) {
             throw new IndexOutOfBoundsException("no such bead");
         }
+        // A look that no eye of the bead has now takes four free slices, so that only its own looks
+        // are tried one by one.
         int least = canFillBead() ? EYES : NONE;
         for (int eye = 0; eye < EYES; eye++) {
             Slice kept = eyes[EYES * bead + eye];
@@ -307,7 +309,7 @@ public final class CaneSlices {
     }
 
     public double mean() {
-        return caneCount == 0 ? 0 : (double) heatOfAll() / caneCount;
+        return caneCount == 0 ? 0.0 : (double) heatOfAll() / caneCount;
     }
 
     public long digest() {
@@ -322,10 +324,12 @@ public final class CaneSlices {
 
     // ---- what there is
 
+    /** null if there is no such cane */
     private Cane caneAt(int number) {
         return number >= 0 && number < MOST_CANES ? canes[number] : null;
     }
 
+    /** null if there is no such slice */
     private Slice sliceAt(int number) {
         return number >= 0 && number < MOST_SLICES ? slices[number] : null;
     }
@@ -450,7 +454,7 @@ public final class CaneSlices {
         int found = 0;
         for (int eye = 0; eye < EYES; eye++) {
             Slice each = eyes[EYES * bead + eye];
-            if (each != null && each.looksInEyeLike(model)) {
+            if (each != null && each.pattern.looksLike(model.pattern, each.turn - model.turn)) {
                 found++;
             }
         }
@@ -565,7 +569,7 @@ public final class CaneSlices {
             Pattern copy = new Pattern();
             for (int ring = 0; ring < RINGS; ring++) {
                 for (int sector = 0; sector < SECTORS; sector++) {
-                    copy.colours[indexOf(ring, sector)] = colourAt(ring, sector, turn);
+                    copy.colours[SECTORS * ring + sector] = colourAt(ring, sector, turn);
                 }
             }
             return copy;
@@ -575,7 +579,7 @@ public final class CaneSlices {
         boolean looksLike(Pattern other, int turn) {
             for (int ring = 0; ring < RINGS; ring++) {
                 for (int sector = 0; sector < SECTORS; sector++) {
-                    if (colourAt(ring, sector, turn) != other.colourAt(ring, sector, 0)) {
+                    if (colourAt(ring, sector, turn) != other.colours[SECTORS * ring + sector]) {
                         return false;
                     }
                 }
@@ -677,10 +681,6 @@ public final class CaneSlices {
         void leave() {
             eye = NONE;
             turn = 0;
-        }
-
-        boolean looksInEyeLike(Slice other) {
-            return pattern.looksLike(other.pattern, turn - other.turn);
         }
     }
 }

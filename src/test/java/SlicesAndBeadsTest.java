@@ -7,6 +7,7 @@ public final class SlicesAndBeadsTest {
         promise12Where();
         promise13Bead();
         promise14Set();
+        promise14SetNextBead();
         promise14SetRefuses();
         promise14SetOrder();
         promise15Drop();
@@ -107,6 +108,19 @@ public final class SlicesAndBeadsTest {
         Check.same("no minute", 14, () -> x.count(0));
         x.drop(0, 3);
         Check.same("a dropped one again", 4, () -> x.set(0, 3, 5, 0));
+    }
+
+    private static void promise14SetNextBead() {
+        CaneSlices x = withSlices(3);
+        for (int beads = 0; beads < 6; beads++) {
+            x.bead();
+        }
+        x.set(5, 0, 0, 0);
+        Check.same("the next bead's eye does not count", 1, () -> x.set(4, 3, 1, 0));
+        Check.same("the last eye of the last bead", 2, () -> x.set(5, 3, 2, 0));
+        Check.same("where it is", 23, () -> x.where(2));
+        Check.same("seen there", 0, () -> x.seen(5, 3, 0, 0));
+        Check.same("dropped there", 2, () -> x.drop(5, 3));
     }
 
     private static void promise14SetRefuses() {
@@ -239,5 +253,10 @@ public final class SlicesAndBeadsTest {
         Check.same("both, though each looks otherwise", 2, () -> x.count(6));
         x.drop(0, 0);
         Check.same("one eye less", 1, () -> x.count(6));
+        x.set(0, 0, 0, 0);
+        x.drop(0, 3);
+        x.drop(1, 0);
+        x.set(1, 0, 3, 3);
+        Check.same("nor does the next bead's eye count", 0, () -> x.count(6));
     }
 }

@@ -11,6 +11,7 @@ public final class WhatWouldBeTest {
         promise21MendsKeeping();
         promise21MendsAnew();
         promise21MendsTurned();
+        promise21MendsLastBead();
         promise21MendsRefuses();
         promise22Mean();
         promise23Digest();
@@ -238,6 +239,20 @@ public final class WhatWouldBeTest {
         x.drop(0, 3);
         x.set(0, 3, 3, 0);
         Check.same("turned alike", 0, () -> x.mends(0));
+    }
+
+    private static void promise21MendsLastBead() {
+        CaneSlices x = twoKinds();
+        for (int beads = 2; beads < 6; beads++) {
+            x.bead();
+        }
+        Check.same("the last bead", 4, () -> x.mends(5));
+        for (int eye = 0; eye < 4; eye++) {
+            x.set(5, eye, eye, 2);
+        }
+        Check.same("it is mended", 0, () -> x.mends(5));
+        x.set(4, 1, 4, 2);
+        Check.same("the next bead's eye is not kept", 3, () -> x.mends(4));
     }
 
     private static void promise21MendsRefuses() {
