@@ -22,23 +22,6 @@ public final class CanesTest {
         Check.finish();
     }
 
-    private static CaneSlices withCanes(int canes) {
-        CaneSlices x = new CaneSlices();
-        for (int made = 0; made < canes; made++) {
-            x.begin();
-        }
-        return x;
-    }
-
-    /** A workshop with one cane of this heat. */
-    private static CaneSlices withHeat(int heat) {
-        CaneSlices x = withCanes(1);
-        if (heat < 10) {
-            x.rest(10 - heat);
-        }
-        return x;
-    }
-
     private static void promise1NewObject() {
         for (int what = 0; what < 8; what++) {
             int asked = what;
@@ -52,7 +35,7 @@ public final class CanesTest {
         }
         long due = sum;
         Check.same("new digest", due, () -> new CaneSlices().digest());
-        CaneSlices one = withCanes(1);
+        CaneSlices one = Workshops.withCanes(1);
         Check.same("objects share nothing", 0, () -> new CaneSlices().count(1));
         Check.same("its own cane", 1, () -> one.count(1));
     }
@@ -84,7 +67,7 @@ public final class CanesTest {
     }
 
     private static void promise3Lay() {
-        CaneSlices x = withCanes(2);
+        CaneSlices x = Workshops.withCanes(2);
         Check.same("lay round", true, () -> x.lay(0, 2, 6, 4, 5));
         int[] rim = {5, 5, 0, 0, 0, 0, 5, 5};
         for (int sector = 0; sector < 8; sector++) {
@@ -106,7 +89,7 @@ public final class CanesTest {
     }
 
     private static void promise3LayRefuses() {
-        CaneSlices x = withCanes(1);
+        CaneSlices x = Workshops.withCanes(1);
         for (int cane : NO_CANE) {
             Check.noPlace("lay cane " + cane, () -> x.lay(cane, 0, 0, 1, 0));
             Check.noPlace("cane before arguments", () -> x.lay(cane, 9, 9, 9, 9));
@@ -123,7 +106,7 @@ public final class CanesTest {
         }
         Check.same("refused calls take no minute", 0, () -> x.count(0));
         Check.same("refused calls take no heat", 10, () -> x.cane(0, 2));
-        CaneSlices cracked = withHeat(0);
+        CaneSlices cracked = Workshops.withHeat(0);
         Check.same("cracks", false, () -> cracked.lay(0, 0, 0, 1, 0));
         long before = cracked.digest();
         Check.badState("lay on cracked", () -> cracked.lay(0, 0, 0, 1, 0));
@@ -134,17 +117,17 @@ public final class CanesTest {
     }
 
     private static void promise3LayCracks() {
-        CaneSlices warm = withHeat(2);
+        CaneSlices warm = Workshops.withHeat(2);
         Check.same("lay with heat 2", true, () -> warm.lay(0, 1, 0, 1, 3));
         Check.same("laid", 3, () -> warm.shows(0, 0, 1, 0));
         Check.same("heat 0", 0, () -> warm.cane(0, 2));
-        CaneSlices cold = withHeat(1);
+        CaneSlices cold = Workshops.withHeat(1);
         Check.same("lay with heat 1", false, () -> cold.lay(0, 1, 0, 1, 3));
         Check.same("not laid", 0, () -> cold.shows(0, 0, 1, 0));
         Check.same("cracked", 0, () -> cold.cane(0, 3));
         Check.same("a minute by which it cracks", 10, () -> cold.count(0));
         Check.same("heat stays at least 0", 0, () -> cold.cane(0, 2));
-        CaneSlices relit = withHeat(1);
+        CaneSlices relit = Workshops.withHeat(1);
         relit.lay(0, 1, 0, 1, 3);
         relit.furnace(0);
         relit.rest(5);
@@ -152,7 +135,7 @@ public final class CanesTest {
     }
 
     private static void promise4Twist() {
-        CaneSlices x = withCanes(1);
+        CaneSlices x = Workshops.withCanes(1);
         x.furnace(0);
         Check.same("twist 4", true, () -> x.twist(0, 4));
         Check.same("it is 4", 4, () -> x.cane(0, 1));
@@ -163,13 +146,13 @@ public final class CanesTest {
         Check.same("it is -4", -4, () -> x.cane(0, 1));
         Check.same("four minutes", 4, () -> x.count(0));
         Check.same("heat in the furnace", 10, () -> x.cane(0, 2));
-        CaneSlices out = withCanes(1);
+        CaneSlices out = Workshops.withCanes(1);
         out.twist(0, 1);
         Check.same("heat out of the furnace", 8, () -> out.cane(0, 2));
     }
 
     private static void promise4TwistRefuses() {
-        CaneSlices x = withCanes(1);
+        CaneSlices x = Workshops.withCanes(1);
         for (int cane : NO_CANE) {
             Check.noPlace("twist cane " + cane, () -> x.twist(cane, 1));
             Check.noPlace("cane before by", () -> x.twist(cane, 0));
@@ -184,16 +167,16 @@ public final class CanesTest {
         Check.badArgument("by before the twist", () -> x.twist(0, 5));
         Check.same("unchanged", before, x::digest);
         Check.same("2 + 2", true, () -> x.twist(0, 2));
-        CaneSlices left = withCanes(1);
+        CaneSlices left = Workshops.withCanes(1);
         left.twist(0, -2);
         Check.badState("-2 - 3", () -> left.twist(0, -3));
     }
 
     private static void promise4TwistCracks() {
-        CaneSlices warm = withHeat(4);
+        CaneSlices warm = Workshops.withHeat(4);
         Check.same("twist with heat 4", true, () -> warm.twist(0, 1));
         Check.same("heat 2", 2, () -> warm.cane(0, 2));
-        CaneSlices cold = withHeat(3);
+        CaneSlices cold = Workshops.withHeat(3);
         Check.same("twist with heat 3", false, () -> cold.twist(0, 1));
         Check.same("not twisted", 0, () -> cold.cane(0, 1));
         Check.same("cracked", 0, () -> cold.cane(0, 3));
@@ -204,7 +187,7 @@ public final class CanesTest {
         Check.badArgument("by before cracked", () -> cold.twist(0, 0));
         Check.noPlace("cane before cracked", () -> cold.twist(1, 0));
         Check.same("unchanged", before, cold::digest);
-        CaneSlices full = withCanes(1);
+        CaneSlices full = Workshops.withCanes(1);
         full.twist(0, 4);
         full.rest(8);
         Check.badState("too far comes before too cold", () -> full.twist(0, 1));
@@ -213,7 +196,7 @@ public final class CanesTest {
     }
 
     private static void promise5Pull() {
-        CaneSlices x = withCanes(1);
+        CaneSlices x = Workshops.withCanes(1);
         x.furnace(0);
         x.twist(0, 3);
         int[] lengths = {16, 32, 60, 60};
@@ -237,10 +220,10 @@ public final class CanesTest {
     }
 
     private static void promise5PullCracks() {
-        CaneSlices warm = withHeat(6);
+        CaneSlices warm = Workshops.withHeat(6);
         Check.same("pull with heat 6", true, () -> warm.pull(0));
         Check.same("heat 4", 4, () -> warm.cane(0, 2));
-        CaneSlices cold = withHeat(5);
+        CaneSlices cold = Workshops.withHeat(5);
         Check.same("pull with heat 5", false, () -> cold.pull(0));
         Check.same("not pulled", 8, () -> cold.cane(0, 0));
         Check.same("cracked", 0, () -> cold.cane(0, 3));
@@ -249,7 +232,7 @@ public final class CanesTest {
         Check.badState("pull a cracked one", () -> cold.pull(0));
         Check.noPlace("cane before cracked", () -> cold.pull(1));
         Check.same("unchanged", before, cold::digest);
-        CaneSlices spent = withHeat(0);
+        CaneSlices spent = Workshops.withHeat(0);
         for (int cuts = 0; cuts < 8; cuts++) {
             spent.cut(0);
         }
@@ -260,7 +243,7 @@ public final class CanesTest {
     }
 
     private static void promise6Furnace() {
-        CaneSlices x = withCanes(3);
+        CaneSlices x = Workshops.withCanes(3);
         Check.same("none before", -1, () -> x.furnace(2));
         Check.same("2 is in it", 1, () -> x.cane(2, 4));
         Check.same("2 before", 2, () -> x.furnace(0));
@@ -273,14 +256,14 @@ public final class CanesTest {
         Check.same("none again", -1, () -> x.furnace(-1));
         Check.same("no minute", 0, () -> x.count(0));
         Check.same("heat unchanged", 10, () -> x.cane(0, 2));
-        CaneSlices cracked = withHeat(1);
+        CaneSlices cracked = Workshops.withHeat(1);
         cracked.lay(0, 0, 0, 1, 1);
         Check.same("a cracked one too", -1, () -> cracked.furnace(0));
         Check.same("gets hot", 3, () -> cracked.rest(1));
     }
 
     private static void promise7Rest() {
-        CaneSlices x = withCanes(3);
+        CaneSlices x = Workshops.withCanes(3);
         Check.same("rest 1", 27, () -> x.rest(1));
         x.furnace(1);
         Check.same("furnace at most 10", 26, () -> x.rest(1));
@@ -297,11 +280,11 @@ public final class CanesTest {
         }
         Check.same("minutes still", 65, () -> x.count(0));
         Check.same("no canes", 0, () -> new CaneSlices().rest(5));
-        Check.same("exactly 60", 0, () -> withCanes(8).rest(60));
+        Check.same("exactly 60", 0, () -> Workshops.withCanes(8).rest(60));
     }
 
     private static void promise8Cut() {
-        CaneSlices x = withCanes(2);
+        CaneSlices x = Workshops.withCanes(2);
         x.lay(0, 1, 0, 1, 6);
         x.twist(0, -1);
         x.rest(3);
@@ -321,13 +304,13 @@ public final class CanesTest {
         x.rest(2);
         x.lay(0, 1, 0, 8, 2);
         Check.same("slices keep their pattern", 6, () -> x.colour(0, 1, 1));
-        CaneSlices cracked = withHeat(1);
+        CaneSlices cracked = Workshops.withHeat(1);
         cracked.lay(0, 0, 0, 1, 1);
         Check.same("a cracked one is cut too", 0, () -> cracked.cut(0));
     }
 
     private static void promise8CutRefuses() {
-        CaneSlices hot = withHeat(4);
+        CaneSlices hot = Workshops.withHeat(4);
         for (int cane : NO_CANE) {
             Check.noPlace("cut cane " + cane, () -> hot.cut(cane));
         }
@@ -336,7 +319,7 @@ public final class CanesTest {
         Check.same("not shorter", 8, () -> hot.cane(0, 0));
         hot.rest(1);
         Check.same("heat 3", 0, () -> hot.cut(0));
-        CaneSlices x = withCanes(8);
+        CaneSlices x = Workshops.withCanes(8);
         x.rest(10);
         for (int cuts = 0; cuts < 60; cuts++) {
             int n = cuts;
@@ -350,7 +333,7 @@ public final class CanesTest {
     }
 
     private static void promise9Cane() {
-        CaneSlices x = withCanes(2);
+        CaneSlices x = Workshops.withCanes(2);
         x.twist(0, 3);
         x.furnace(0);
         x.pull(0);
@@ -375,7 +358,7 @@ public final class CanesTest {
     }
 
     private static void promise10Shows() {
-        CaneSlices x = withCanes(2);
+        CaneSlices x = Workshops.withCanes(2);
         x.furnace(0);
         x.lay(0, 0, 0, 1, 1);
         x.lay(0, 1, 3, 2, 2);

@@ -35,6 +35,14 @@ final class Check {
         }
     }
 
+    /** A refused call that leaves all as it was: the digest tells the whole state. */
+    static void refusedUnchanged(
+            String label, CaneSlices shop, Class<? extends RuntimeException> due, Call call) {
+        long before = shop.digest();
+        refused(label, due, call);
+        same(label + ": nothing changed", before, shop::digest);
+    }
+
     static void noPlace(String label, Call call) {
         refused(label, IndexOutOfBoundsException.class, call);
     }

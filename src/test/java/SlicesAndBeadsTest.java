@@ -17,25 +17,8 @@ public final class SlicesAndBeadsTest {
         Check.finish();
     }
 
-    /** One cane with a mark in each ring, twisted by 1, and so many slices cut off it. */
-    private static CaneSlices withSlices(int slices) {
-        CaneSlices x = new CaneSlices();
-        x.begin();
-        x.furnace(0);
-        x.lay(0, 0, 0, 1, 1);
-        x.lay(0, 1, 2, 3, 2);
-        x.lay(0, 2, 7, 2, 3);
-        x.twist(0, 1);
-        x.furnace(-1);
-        x.rest(10);
-        for (int cuts = 0; cuts < slices; cuts++) {
-            x.cut(0);
-        }
-        return x;
-    }
-
     private static void promise11Colour() {
-        CaneSlices x = withSlices(2);
+        CaneSlices x = Workshops.withSlices(2);
         int[][] first = {{0, 0, 0, 0, 0, 0, 0, 1}, {0, 2, 2, 2, 0, 0, 0, 0}, {0, 0, 0, 0, 0, 0, 3, 3}};
         for (int ring = 0; ring < 3; ring++) {
             for (int sector = 0; sector < 8; sector++) {
@@ -59,7 +42,7 @@ public final class SlicesAndBeadsTest {
     }
 
     private static void promise12Where() {
-        CaneSlices x = withSlices(3);
+        CaneSlices x = Workshops.withSlices(3);
         x.bead();
         x.bead();
         Check.same("in none", -1, () -> x.where(1));
@@ -78,7 +61,7 @@ public final class SlicesAndBeadsTest {
     }
 
     private static void promise13Bead() {
-        CaneSlices x = withSlices(0);
+        CaneSlices x = Workshops.withSlices(0);
         for (int number = 0; number < 6; number++) {
             int due = number;
             Check.same("bead", due, x::bead);
@@ -95,7 +78,7 @@ public final class SlicesAndBeadsTest {
     }
 
     private static void promise14Set() {
-        CaneSlices x = withSlices(8);
+        CaneSlices x = Workshops.withSlices(8);
         x.bead();
         x.bead();
         Check.same("first eye", 1, () -> x.set(0, 2, 7, 7));
@@ -111,7 +94,7 @@ public final class SlicesAndBeadsTest {
     }
 
     private static void promise14SetNextBead() {
-        CaneSlices x = withSlices(3);
+        CaneSlices x = Workshops.withSlices(3);
         for (int beads = 0; beads < 6; beads++) {
             x.bead();
         }
@@ -124,7 +107,7 @@ public final class SlicesAndBeadsTest {
     }
 
     private static void promise14SetRefuses() {
-        CaneSlices x = withSlices(3);
+        CaneSlices x = Workshops.withSlices(3);
         x.bead();
         for (int bad : WILD) {
             Check.noPlace("bead " + bad, () -> x.set(bad, 0, 0, 0));
@@ -147,7 +130,7 @@ public final class SlicesAndBeadsTest {
     }
 
     private static void promise14SetOrder() {
-        CaneSlices x = withSlices(2);
+        CaneSlices x = Workshops.withSlices(2);
         x.bead();
         x.set(0, 0, 0, 0);
         Check.noPlace("bead before turn", () -> x.set(1, 0, 0, 8));
@@ -159,7 +142,7 @@ public final class SlicesAndBeadsTest {
     }
 
     private static void promise15Drop() {
-        CaneSlices x = withSlices(3);
+        CaneSlices x = Workshops.withSlices(3);
         x.bead();
         x.bead();
         x.set(0, 1, 2, 6);
@@ -182,7 +165,7 @@ public final class SlicesAndBeadsTest {
     }
 
     private static void promise16Seen() {
-        CaneSlices x = withSlices(1);
+        CaneSlices x = Workshops.withSlices(1);
         x.bead();
         x.set(0, 2, 0, 3);
         int[][] seen = {{0, 0, 1, 0, 0, 0, 0, 0}, {0, 0, 0, 0, 2, 2, 2, 0}, {0, 3, 3, 0, 0, 0, 0, 0}};
@@ -209,7 +192,7 @@ public final class SlicesAndBeadsTest {
     }
 
     private static void promise17Count() {
-        CaneSlices x = withSlices(3);
+        CaneSlices x = Workshops.withSlices(3);
         x.begin();
         x.begin();
         x.furnace(2);
@@ -232,7 +215,7 @@ public final class SlicesAndBeadsTest {
     }
 
     private static void promise17CountBeads() {
-        CaneSlices x = withSlices(8);
+        CaneSlices x = Workshops.withSlices(8);
         x.bead();
         x.bead();
         Check.same("empty eyes are not counted", 0, () -> x.count(6));

@@ -19,28 +19,8 @@ public final class WhatWouldBeTest {
         Check.finish();
     }
 
-    /** A cane of heat 10 in the furnace, with this colour in one sector of the core. */
-    private static CaneSlices marked(int colour) {
-        CaneSlices x = new CaneSlices();
-        x.begin();
-        x.furnace(0);
-        x.lay(0, 0, 0, 1, colour);
-        return x;
-    }
-
-    private static void cool(CaneSlices x) {
-        x.furnace(-1);
-        x.rest(10);
-    }
-
-    private static void cutOff(CaneSlices x, int cane, int cuts) {
-        for (int made = 0; made < cuts; made++) {
-            x.cut(cane);
-        }
-    }
-
     private static void promise18Again() {
-        CaneSlices x = marked(1);
+        CaneSlices x = Workshops.marked(1);
         Check.same("without a twist", 4, () -> x.again(0, 3));
         Check.same("last place", -1, () -> x.again(0, 7));
         x.twist(0, 4);
@@ -65,23 +45,23 @@ public final class WhatWouldBeTest {
     }
 
     private static void promise18AgainRefuses() {
-        CaneSlices x = marked(1);
+        CaneSlices x = Workshops.marked(1);
         for (int bad : WILD) {
             Check.noPlace("cane " + bad, () -> x.again(bad, 0));
             Check.noPlace("place " + bad, () -> x.again(0, bad));
         }
         Check.noPlace("cane 1", () -> x.again(1, 0));
         Check.noPlace("place 8", () -> x.again(0, 8));
-        cool(x);
-        cutOff(x, 0, 8);
+        Workshops.cool(x);
+        Workshops.cutOff(x, 0, 8);
         Check.noPlace("no place left", () -> x.again(0, 0));
     }
 
     private static void promise19Turn() {
-        CaneSlices x = marked(1);
+        CaneSlices x = Workshops.marked(1);
         x.twist(0, 3);
-        cool(x);
-        cutOff(x, 0, 8);
+        Workshops.cool(x);
+        Workshops.cutOff(x, 0, 8);
         for (int slice = 0; slice < 8; slice++) {
             int n = slice;
             // The place goes from 7 - n to 7: by n * 3 sectors.
@@ -94,8 +74,8 @@ public final class WhatWouldBeTest {
         x.lay(1, 0, 0, 1, 1);
         x.lay(1, 0, 4, 1, 1);
         x.twist(1, 1);
-        cool(x);
-        cutOff(x, 1, 4);
+        Workshops.cool(x);
+        Workshops.cutOff(x, 1, 4);
         Check.same("the least of two", 3, () -> x.turn(11, 8));
         Check.same("the least of two, back", 1, () -> x.turn(8, 11));
         Check.same("not alike", -1, () -> x.turn(0, 8));
@@ -111,12 +91,12 @@ public final class WhatWouldBeTest {
     }
 
     private static void promise20Cuts() {
-        CaneSlices x = marked(1);
+        CaneSlices x = Workshops.marked(1);
         x.twist(0, 1);
         x.pull(0);
         x.twist(0, 1);
-        cool(x);
-        cutOff(x, 0, 3);
+        Workshops.cool(x);
+        Workshops.cutOff(x, 0, 3);
         // The slices are those of the places 15, 14, 13; 13 places are left, 0 to 12.
         Check.same("place 7", 6, () -> x.cuts(0, 0));
         Check.same("place 6", 7, () -> x.cuts(0, 1));
@@ -132,16 +112,16 @@ public final class WhatWouldBeTest {
         CaneSlices plain = new CaneSlices();
         plain.begin();
         plain.rest(10);
-        cutOff(plain, 0, 7);
+        Workshops.cutOff(plain, 0, 7);
         Check.same("the next one", 1, () -> plain.cuts(0, 0));
         plain.cut(0);
         Check.same("length 0", -1, () -> plain.cuts(0, 0));
     }
 
     private static void promise20CutsRefuses() {
-        CaneSlices x = marked(1);
+        CaneSlices x = Workshops.marked(1);
         Check.noPlace("no slice yet", () -> x.cuts(0, 0));
-        cool(x);
+        Workshops.cool(x);
         x.cut(0);
         for (int bad : WILD) {
             Check.noPlace("cane " + bad, () -> x.cuts(bad, 0));
@@ -153,13 +133,13 @@ public final class WhatWouldBeTest {
 
     /** Slices 0 to 7 of one look, 8 to 15 of another, none of them turned; and two beads. */
     private static CaneSlices twoKinds() {
-        CaneSlices x = marked(1);
+        CaneSlices x = Workshops.marked(1);
         x.begin();
         x.furnace(1);
         x.lay(1, 0, 0, 1, 2);
-        cool(x);
-        cutOff(x, 0, 8);
-        cutOff(x, 1, 8);
+        Workshops.cool(x);
+        Workshops.cutOff(x, 0, 8);
+        Workshops.cutOff(x, 1, 8);
         x.bead();
         x.bead();
         return x;
@@ -191,19 +171,19 @@ public final class WhatWouldBeTest {
     }
 
     private static void promise21MendsAnew() {
-        CaneSlices x = marked(1);
+        CaneSlices x = Workshops.marked(1);
         x.begin();
-        cool(x);
+        Workshops.cool(x);
         x.bead();
         Check.same("no slices", -1, () -> x.mends(0));
-        cutOff(x, 0, 3);
+        Workshops.cutOff(x, 0, 3);
         x.cut(1);
         Check.same("four, but not alike", -1, () -> x.mends(0));
         x.cut(1);
         x.set(0, 0, 0, 0);
         x.set(0, 1, 1, 1);
         Check.same("those of the bead are not used again", -1, () -> x.mends(0));
-        cutOff(x, 1, 2);
+        Workshops.cutOff(x, 1, 2);
         // Now 3, 4, 5, 6 are plain and free, and 2 alone is free of those with a mark.
         Check.same("all anew, by another look", 4, () -> x.mends(0));
         x.cut(0);
@@ -218,11 +198,11 @@ public final class WhatWouldBeTest {
     }
 
     private static void promise21MendsTurned() {
-        CaneSlices x = marked(1);
+        CaneSlices x = Workshops.marked(1);
         x.twist(0, 1);
-        cool(x);
+        Workshops.cool(x);
         x.bead();
-        cutOff(x, 0, 4);
+        Workshops.cutOff(x, 0, 4);
         Check.same("free ones are turned", 4, () -> x.mends(0));
         x.set(0, 0, 0, 5);
         Check.same("to the look of the one that stays", 3, () -> x.mends(0));
@@ -286,11 +266,11 @@ public final class WhatWouldBeTest {
     }
 
     private static void promise23Digest() {
-        CaneSlices x = marked(3);
+        CaneSlices x = Workshops.marked(3);
         x.twist(0, -1);
         x.lay(0, 2, 7, 2, 5);
         x.begin();
-        cool(x);
+        Workshops.cool(x);
         x.cut(0);
         x.cut(0);
         x.bead();
